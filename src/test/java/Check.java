@@ -1,3 +1,5 @@
+import java.util.stream.IntStream;
+
 /** Counts the answers that are not as due, and the short ways of calling that the tests share. */
 final class Check {
     private int calls = 0;
@@ -28,6 +30,11 @@ final class Check {
         if (wrong != 0) {
             System.exit(1);
         }
+    }
+
+    /** All characters that a text may have, and some far behind them whose low bytes are the same. */
+    static int[] someCharacters() {
+        return IntStream.range(0, 4 * 256).map(n -> n < 512 ? n : n + Character.MAX_VALUE + 1 - 4 * 256).toArray();
     }
 
     static FoldedStrand strand(String bases) {

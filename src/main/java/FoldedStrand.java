@@ -448,6 +448,10 @@ public final class FoldedStrand {
             this.strand = strand;
             this.loops = loops;
             this.folds = folds;
+            // Never null, whatever a search looks at.
+            for (int number = 0; number < DEEPEST; number++) {
+                regions[number] = folds.outside;
+            }
         }
 
         int size() {

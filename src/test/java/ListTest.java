@@ -159,5 +159,8 @@ public final class ListTest {
         CHECK.due("list(0)", strand.list(0), 1);
         CHECK.due("energy behind a new list", strand.energy(), 23);
         CHECK.due("take(0) again", strand.take(0), 3);
+        CHECK.due("a read that fails", Check.read(strand, ".((....)"), -18);
+        CHECK.due("take(0) behind it", strand.take(0), 3);
+        CHECK.due("energy behind that", strand.energy(), -12);
     }
 }

@@ -4,13 +4,25 @@ import java.util.stream.IntStream;
 final class Check {
     private int calls = 0;
     private int wrong = 0;
+    private String sentence = "";
+    private int callsBefore = 0;
+
+    /** The answers that follow belong to this sentence of the document. */
+    void sentence(String words) {
+        endSentence();
+        sentence = words + ": ";
+        callsBefore = calls;
+    }
+
+    private void endSentence() {
+        if (!sentence.isEmpty() && calls == callsBefore) {
+            wrong++;
+            System.out.println(sentence + "no answer was looked at");
+        }
+    }
 
     void due(String call, long got, long want) {
-        calls++;
-        if (got != want) {
-            wrong++;
-            System.out.println(call + " answered " + got + ", due is " + want);
-        }
+        due(call, Long.toString(got), Long.toString(want));
     }
 
     void due(String call, boolean got, boolean want) {
@@ -21,11 +33,12 @@ final class Check {
         calls++;
         if (!got.equals(want)) {
             wrong++;
-            System.out.println(call + " answered " + got + ", due is " + want);
+            System.out.println(sentence + call + " answered " + got + ", due is " + want);
         }
     }
 
     void finish() {
+        endSentence();
         System.out.println(calls + " answers, " + wrong + " not as due");
         if (wrong != 0) {
             System.exit(1);
@@ -63,9 +76,32 @@ final class Check {
     /** The text of structure k of the list, as at tells it. */
     static String text(FoldedStrand strand, int k) {
         StringBuilder text = new StringBuilder();
-        for (int i = 0; strand.at(k, i) != FoldedStrand.BAD; i++) {
-            text.append((char) strand.at(k, i));
+        for (int c = strand.at(k, 0); c != FoldedStrand.BAD; c = strand.at(k, text.length())) {
+            text.append((char) c);
         }
         return text.toString();
+    }
+
+    /** All answers that change nothing, of the list its first three structures: some 130 calls. */
+    static String state(FoldedStrand strand) {
+        StringBuilder state = new StringBuilder();
+        state.append(strand.most()).append(' ').append(strand.least()).append(' ').append(strand.ways());
+        for (int k = 0; k < 3; k++) {
+            state.append(" / ").append(text(strand, k)).append(' ').append(strand.energyOf(k));
+        }
+        state.append(" / ").append(strand.energy());
+        for (int i = -1; i <= 18; i++) {
+            state.append(' ').append(strand.partner(i)).append(' ').append(strand.loop(i));
+        }
+        return state.toString();
+    }
+
+    /** Every character there is, for an answer that hangs on the character alone. */
+    static char[] everyCharacter() {
+        char[] all = new char[Character.MAX_VALUE + 1];
+        for (int c = 0; c < all.length; c++) {
+            all[c] = (char) c;
+        }
+        return all;
     }
 }

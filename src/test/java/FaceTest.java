@@ -19,7 +19,8 @@ public final class FaceTest {
         check.due("FULL", FoldedStrand.FULL, -2);
         check.due("public and final", face.getModifiers(), Modifier.PUBLIC | Modifier.FINAL);
         check.due("methods", methods(face).toString(), METHODS.toString());
-        check.due("constants", Arrays.stream(face.getDeclaredFields()).filter(f -> !Modifier.isPrivate(f.getModifiers()))
+        check.due("constants",
+            Arrays.stream(face.getDeclaredFields()).filter(f -> !Modifier.isPrivate(f.getModifiers()))
             .map(f -> f.toString()).sorted().collect(Collectors.joining(", ")),
             "public static final int FoldedStrand.BAD, public static final int FoldedStrand.FULL");
         check.due("constructors", Arrays.toString(face.getDeclaredConstructors()), "[public FoldedStrand()]");
